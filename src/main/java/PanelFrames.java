@@ -388,7 +388,6 @@ public final class PanelFrames {
             return;
         }
         frameOn = false;
-        nearNext = false;
         attention.forgetAll();
         desk.forgetAll();
         kids.told = 0;
@@ -953,7 +952,6 @@ public final class PanelFrames {
         int indent;
         int cursorX;
         int cursorY;
-        int lineTop;
         int lineBottom;
         int lastRight;
         int lowest;
@@ -972,14 +970,13 @@ public final class PanelFrames {
         }
 
         void placeCursor(boolean near) {
+            // In one line the cursor's height stays the line's top.
             if (near && hasItem) {
                 cursorX = lastRight + GAP;
-                cursorY = lineTop;
                 return;
             }
             cursorX = firstX + indent;
             cursorY = hasItem ? lineBottom + GAP : firstY;
-            lineTop = cursorY;
             lineBottom = cursorY;
         }
 

@@ -15,6 +15,7 @@ public final class DrawingTest {
         sixtyFourVertices();
         sixtyFourVerticesAcrossTextures();
         windowsInTheirOrder();
+        eachWindowHasItsOwnList();
         popupAtLast();
         wrongArguments();
         manyQuads();
@@ -386,5 +387,33 @@ public final class DrawingTest {
         Checks.same("vertices", ui.drawn(2), 4 * (3 + 4 * 240));
         Checks.same("indices", ui.drawn(1), 6 * (3 + 4 * 240));
         Checks.same("the last vertex", ui.vertex(4 * (3 + 4 * 240) - 1, 2), 6);
+    }
+
+    private static void eachWindowHasItsOwnList() {
+        PanelFrames ui = new PanelFrames();
+        ui.begin();
+        ui.window(0, 10, 10, 100, 100);
+        ui.close();
+        ui.window(1, 10, 10, 100, 100);
+        ui.close();
+        Checks.same("the same clip, but not the same list", ui.end(), 2);
+        Checks.command("the second", ui, 1, 10, 10, 110, 110, 0, 8, 12, 12);
+        Checks.same("its indices", ui.index(12), 0);
+        ui.begin();
+        ui.window(2, 0, 0, 400, 100);
+        for (int k = 0; k < 20; k++) {
+            ui.near();
+            ui.check(k);
+        }
+        ui.close();
+        ui.window(3, 0, 0, 400, 100);
+        ui.check(1);
+        ui.close();
+        Checks.same("commands", ui.end(), 5);
+        Checks.command("the last of the first list", ui, 2, 0, 12, 400, 100, 0, 64, 96, 36);
+        Checks.command("the first of the second", ui, 3, 0, 0, 400, 100, 0, 88, 132, 12);
+        Checks.command("and its last", ui, 4, 0, 12, 400, 100, 0, 88, 144, 6);
+        Checks.same("its indices begin anew", ui.index(132), 0);
+        Checks.same("and go on", ui.index(144), 8);
     }
 }

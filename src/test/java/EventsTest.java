@@ -4,6 +4,7 @@ public final class EventsTest {
         newObject();
         points();
         pressesStopTheTaking();
+        releaseWaitsBehindAPress();
         pressThatIsNothing();
         releaseThatIsNothing();
         wheels();
@@ -289,5 +290,22 @@ public final class EventsTest {
             mouseIs("in their order", ui, 10 * round, 40);
             ui.end();
         }
+    }
+
+    private static void releaseWaitsBehindAPress() {
+        PanelFrames ui = new PanelFrames();
+        ui.press(true);
+        ui.press(false);
+        ui.press(true);
+        Checks.same("the press alone", ui.begin(), 1);
+        Checks.same("two wait", ui.look(11), 2);
+        Checks.same("pressed", ui.look(10), 1);
+        ui.end();
+        Checks.same("the release alone", ui.begin(), 1);
+        Checks.same("released", ui.look(10), 0);
+        ui.end();
+        Checks.same("the second press", ui.begin(), 1);
+        Checks.same("pressed again", ui.look(10), 1);
+        ui.end();
     }
 }

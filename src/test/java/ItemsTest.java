@@ -14,6 +14,7 @@ public final class ItemsTest {
         sliderByMouse();
         sliderCutsTheFraction();
         sliderOnRelease();
+        sliderPressedBeside();
         sliderIsBroughtBetween();
         sliderByKeys();
         trees();
@@ -573,5 +574,14 @@ public final class ItemsTest {
             }
         }
         Checks.same("pressed it got the letter at once", ui.text(Checks.idIn(0, 1), 0), 'b');
+    }
+
+    private static void sliderPressedBeside() {
+        PanelFrames ui = new PanelFrames();
+        ui.point(54, 100);
+        sliderFrame(ui, 101, 0, 100);
+        ui.press(true);
+        Checks.same("pressed beside it", sliderFrame(ui, 101, 0, 100), 0);
+        Checks.same("and drawn over it", slideTo(ui, 54, 101, 0, 100), 0);
     }
 }

@@ -8,6 +8,7 @@ public final class KeptTest {
         backspace();
         allKeysInOneFrame();
         insertingInTheMiddle();
+        twoTexts();
         sameIdSameKept();
         firstToHave();
         forOthersNothingIsKept();
@@ -251,5 +252,46 @@ public final class KeptTest {
         Checks.same("there is no text", type(ui, "abc"), 0);
         Checks.same("no letter", ui.text(ID, 0), -1);
         Checks.same("40 are kept", ui.look(12), 40);
+    }
+
+    private static void twoTexts() {
+        PanelFrames ui = new PanelFrames();
+        String[] texts = {"abcdefghijkl", "mnopqrstuvwx", "yz"};
+        for (int round = 0; round < 3; round++) {
+            ui.key(Checks.TAB, true);
+            ui.key(Checks.TAB, false);
+            threeFields(ui);
+            for (char letter : texts[round].toCharArray()) {
+                ui.letter(letter);
+            }
+            threeFields(ui);
+        }
+        ui.key(Checks.TAB, true);
+        ui.key(Checks.TAB, false);
+        threeFields(ui);
+        Checks.same("the first has the focus again", ui.look(2), Checks.idIn(0, 1));
+        ui.key(Checks.LEFT, true);
+        ui.key(Checks.BACK, true);
+        threeFields(ui);
+        ui.letter('1');
+        threeFields(ui);
+        texts[0] = "abcdefghij1l";
+        for (int field = 0; field < 3; field++) {
+            for (int k = 0; k < texts[field].length(); k++) {
+                Checks.same("field " + field + ", letter " + k,
+                    ui.text(Checks.idIn(0, 1 + field), k), texts[field].charAt(k));
+            }
+        }
+        Checks.same("three are kept", ui.look(12), 3);
+    }
+
+    private static void threeFields(PanelFrames ui) {
+        ui.begin();
+        ui.window(0, 0, 0, 200, 200);
+        for (int label = 1; label <= 3; label++) {
+            ui.field(label, 100);
+        }
+        ui.close();
+        ui.end();
     }
 }

@@ -6,10 +6,12 @@ public final class LayoutTest {
         nearStates();
         groups();
         emptyGroup();
+        nearAGroupCountsOnce();
         groupsInGroups();
         groupStates();
         indent();
         indentInGroupsAndChildren();
+        brokenFrameLeavesNoIndent();
         treeWithoutRoom();
         childArguments();
         childPlaces();
@@ -18,6 +20,8 @@ public final class LayoutTest {
         childByNumber();
         childInChild();
         wheelOfTheLastChild();
+        wheelOfTheEighthChild();
+        childOfAnEarlierFrame();
         childStates();
         scopes();
         scopeStates();
@@ -621,5 +625,107 @@ public final class LayoutTest {
         ui.end();
         Checks.same("the focus of 1", ui.look(2), 1);
         Checks.same("kept for 1", ui.kept(1), 5);
+    }
+
+    private static void nearAGroupCountsOnce() {
+        PanelFrames ui = new PanelFrames();
+        ui.begin();
+        ui.window(0, 0, 0, 200, 200);
+        ui.button(1, 10);
+        ui.near();
+        ui.group();
+        ui.close();
+        Checks.latest("the group is near", ui, 18, 16, 18, 16);
+        ui.button(2, 10);
+        Checks.latest("what is behind it isn't", ui, 4, 32, 14, 44);
+        ui.close();
+        ui.end();
+    }
+
+    private static void brokenFrameLeavesNoIndent() {
+        PanelFrames ui = withOpenTrees();
+        for (int k = 0; k < 50; k++) {
+            ui.begin();
+            ui.window(0, 0, 0, 200, 200);
+            ui.tree(1, 40);
+            ui.child(3, 50, 50);
+            ui.group();
+            Checks.refusedState("end with all that open", ui::end);
+        }
+        ui.begin();
+        ui.window(0, 0, 0, 200, 200);
+        ui.button(1, 10);
+        Checks.latest("no indent in the window", ui, 4, 16, 14, 28);
+        ui.child(3, 50, 50);
+        ui.button(1, 10);
+        Checks.latest("none in the child", ui, 6, 34, 16, 46);
+        ui.group();
+        ui.button(1, 10);
+        ui.close();
+        Checks.latest("none in the group", ui, 6, 50, 16, 62);
+        ui.close();
+        ui.button(2, 10);
+        Checks.latest("each area is its own", ui, 4, 86, 14, 98);
+        ui.close();
+        ui.end();
+    }
+
+    /** Eight children side by side in window 5, each of two lines; where the first lines lie. */
+    private static int[] eightTops(PanelFrames ui, int height) {
+        int[] tops = new int[8];
+        ui.begin();
+        ui.window(5, 0, 0, 400, 100);
+        for (int k = 0; k < 8; k++) {
+            ui.near();
+            ui.child(k, 20, height);
+            ui.button(0, 10);
+            tops[k] = ui.look(6);
+            ui.button(1, 10);
+            ui.close();
+        }
+        ui.close();
+        ui.end();
+        return tops;
+    }
+
+    private static void wheelOfTheEighthChild() {
+        for (int scrolled = 0; scrolled < 8; scrolled++) {
+            PanelFrames ui = new PanelFrames();
+            ui.point(10 + 24 * scrolled, 20);
+            eightTops(ui, 15);
+            ui.wheel(1);
+            int[] tops = eightTops(ui, 15);
+            for (int k = 0; k < 8; k++) {
+                Checks.same("child " + k + " of eight", tops[k], k == scrolled ? 8 : 18);
+            }
+            ui.wheel(9);
+            Checks.same("its own HIGH: 28 less 15", eightTops(ui, 15)[scrolled], 5);
+            ui.wheel(9);
+            Checks.same("VIEW as HIGH: no scroll", eightTops(ui, 28)[scrolled], 18);
+            ui.wheel(9);
+            Checks.same("VIEW above HIGH: no scroll", eightTops(ui, 60)[scrolled], 18);
+        }
+    }
+
+    private static void childOfAnEarlierFrame() {
+        PanelFrames ui = new PanelFrames();
+        ui.point(10, 30);
+        for (int k = 0; k < 3; k++) {
+            ui.begin();
+            ui.window(0, 0, 0, 200, 62);
+            if (k == 0) {
+                ui.child(2, 60, 40);
+                ui.close();
+            }
+            for (int line = 0; line < 5; line++) {
+                ui.button(line, 100);
+            }
+            ui.close();
+            ui.end();
+            if (k == 1) {
+                ui.wheel(1);
+            }
+        }
+        Checks.same("no child was told in the frame before: the window scrolls", ui.place(0, 4), 10);
     }
 }

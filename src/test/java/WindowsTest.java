@@ -10,6 +10,7 @@ public final class WindowsTest {
         pressInTitle();
         pressInTitleWhileActive();
         moving();
+        movingEachWindow();
         movingNotWhenReleased();
         collapsing();
         movedIsNotCollapsed();
@@ -390,5 +391,25 @@ public final class WindowsTest {
         ui.end();
         lines(ui, 9);
         Checks.same("HIGH 0 brings it to 0", ui.place(0, 4), 0);
+    }
+
+    private static void movingEachWindow() {
+        for (int window = 0; window < 8; window++) {
+            PanelFrames ui = new PanelFrames();
+            frame(ui, window);
+            ui.point(50 * window + 5, 50 * window + 5);
+            ui.press(true);
+            frame(ui, window);
+            ui.point(50 * window + 7, 50 * window + 4);
+            frame(ui, window);
+            Checks.same("window " + window + " moved right", ui.place(window, 0), 50 * window + 2);
+            Checks.same("window " + window + " moved up", ui.place(window, 1), 50 * window - 1);
+            ui.press(false);
+            ui.begin();
+            Checks.same("active until it is told", ui.look(0), 1000 + window);
+            tell(ui, window);
+            Checks.same("and no more so at once", ui.look(0), 0);
+            ui.end();
+        }
     }
 }
