@@ -254,7 +254,7 @@ public final class PanelFrames {
         Area inner = pile.area();
         inner.start(latest.left + CHILD_EDGE, latest.top + CHILD_EDGE - kids.scrollOf(number), number);
         inner.clip.setMeeting(latest, outer.clip);
-        kids.clipOf(number).setMeeting(latest, outer.clip);
+        kids.clipOf(number).setLike(inner.clip);
     }
 
     public void scope(int label) throws IllegalArgumentException, IllegalStateException {
@@ -271,7 +271,7 @@ public final class PanelFrames {
         pile.put(OPEN_GROUP, pile.topId());
         Area inner = pile.area();
         inner.start(outer.cursorX, outer.cursorY, 0);
-        inner.clip.setMeeting(outer.clip, outer.clip);
+        inner.clip.setLike(outer.clip);
     }
 
     public void near() throws IllegalStateException {
@@ -531,6 +531,10 @@ public final class PanelFrames {
             top = newTop;
             right = newRight;
             bottom = newBottom;
+        }
+
+        void setLike(Box other) {
+            set(other.left, other.top, other.right, other.bottom);
         }
 
         boolean has(int x, int y) {

@@ -99,7 +99,7 @@ public final class RoughRunsTest {
             fits &= clipIsOnTheScreen(k);
             for (int end = at + ui.command(k, 7); at < end; at++) {
                 int vertex = ui.command(k, 5) + ui.index(at);
-                fits &= vertex == at / 6 * 4 + new int[] {0, 1, 2, 0, 2, 3}[at % 6] && ui.index(at) < 68;
+                fits &= vertex == at / 6 * 4 + new int[] {0, 1, 2, 0, 2, 3}[at % 6] && ui.index(at) < 64;
             }
         }
         fits &= at == indices && ui.command(commands, 0) == -1 && ui.index(indices) == -1;
