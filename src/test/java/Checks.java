@@ -1,7 +1,17 @@
+import java.util.function.Supplier;
+
 /** What the tests share: compares answers, counts the wrong ones, and ends the program. */
 final class Checks {
     interface Call {
         void run();
+    }
+
+    interface Event {
+        boolean with(PanelFrames ui, int value);
+    }
+
+    interface Telling {
+        void with(PanelFrames ui, int value);
     }
 
     static final int TAB = 0;
@@ -52,6 +62,66 @@ final class Checks {
             }
             return thrown.getClass() == IllegalStateException.class ? 2 : 3;
         }
+    }
+
+    /** The ends of a range and their neighbours inside. */
+    static int[] inside(int low, int high) {
+        return new int[] {low, Math.min(low + 1, high), Math.max(high - 1, low), high};
+    }
+
+    /** One step beyond each end of a range, and far beyond. */
+    static int[] outside(int low, int high) {
+        return new int[] {low - 1, high + 1, Integer.MIN_VALUE, Integer.MAX_VALUE};
+    }
+
+    /** An event is taken with the values low .. high, and refused with others: those don't wait. */
+    static void eventRange(String what, int low, int high, Event event) {
+        for (int value : inside(low, high)) {
+            PanelFrames ui = new PanelFrames();
+            yes(what + " " + value, event.with(ui, value));
+            same(what + " " + value + " waits", ui.look(11), 1);
+        }
+        for (int value : outside(low, high)) {
+            PanelFrames ui = new PanelFrames();
+            no(what + " " + value, event.with(ui, value));
+            same(what + " " + value + " doesn't wait", ui.look(11), 0);
+        }
+    }
+
+    /**
+     * A call has an argument low .. high: others are refused in a state that would do as in one that
+     * would not, and the frame goes on; with the right ones the state alone decides.
+     */
+    static void argumentRange(String what, int low, int high, Supplier<PanelFrames> made, Telling call) {
+        for (int value : inside(low, high)) {
+            PanelFrames ui = made.get();
+            same(what + " " + value + " throws", thrownBy(() -> call.with(ui, value)), 0);
+            PanelFrames idle = new PanelFrames();
+            refusedState(what + " " + value + " in no frame", () -> call.with(idle, value));
+        }
+        for (int value : outside(low, high)) {
+            PanelFrames ui = made.get();
+            int open = ui.look(13);
+            refusedArgument(what + " " + value, () -> call.with(ui, value));
+            same(what + " " + value + ": the frame is on", ui.look(14), 1);
+            same(what + " " + value + ": as much is open", ui.look(13), open);
+            PanelFrames idle = new PanelFrames();
+            refusedArgument(what + " " + value + " in no frame", () -> call.with(idle, value));
+        }
+    }
+
+    /** A frame in which nothing is open. */
+    static PanelFrames inFrame() {
+        PanelFrames ui = new PanelFrames();
+        ui.begin();
+        return ui;
+    }
+
+    /** A frame in which window 0 is open, at 0, 0, 400 wide and high. */
+    static PanelFrames inWindow() {
+        PanelFrames ui = inFrame();
+        ui.window(0, 0, 0, 400, 400);
+        return ui;
     }
 
     /** The ID that labels have, one told in the other, in a window. */
