@@ -27,6 +27,7 @@ public final class DrawingEdgesTest {
         sixtyFourAcrossTextures();
         sixtyFourAcrossClips();
         threeTimesSixtyFour();
+        manyCommands();
         offsetsOfTheNextList();
         eightWindowsAndThePopup();
         drawingOfTheLastFrame();
@@ -537,6 +538,33 @@ public final class DrawingEdgesTest {
             Checks.same(quads + " quads: commands", ui.drawn(0), quads <= 32 ? 3 : 4);
             Checks.same(quads + " quads: the last offset", ui.command(last, 5), quads <= 32 ? 64 : 128);
             Checks.same(quads + " quads: the last index", ui.index(6 * quads - 1), (4 * quads - 1) % 64);
+        }
+    }
+
+    /** The document sets no bound on commands: each button has one, and its digit another one. */
+    private static void manyCommands() {
+        int[] counts = {15, 16, 17, 31, 32, 33, 60};
+        for (int count : counts) {
+            PanelFrames ui = Checks.inFrame();
+            ui.window(0, 0, 0, 400, 400);
+            for (int k = 0; k < count; k++) {
+                if (k % 20 != 0) {
+                    ui.near();
+                }
+                ui.button(k % 10, 10);
+            }
+            ui.close();
+            Checks.same(count + " buttons: commands", ui.end(), 1 + 2 * count);
+            for (int k = 0; k < count; k++) {
+                int button = 1 + 2 * k;
+                Checks.same("button " + k, ui.command(button, 4), 0);
+                Checks.same("button " + k + ", how many", ui.command(button, 7), 6);
+                Checks.same("digit " + k, ui.command(button + 1, 4), 1 + k % 10);
+                Checks.same("digit " + k + ", first index", ui.command(button + 1, 6), 12 + 12 * k + 6);
+                Checks.same("digit " + k + ", how many", ui.command(button + 1, 7), 6);
+            }
+            Checks.same("the last offset", ui.command(2 * count, 5), (8 * count + 4) / 64 * 64);
+            Checks.same("none behind it", ui.command(2 * count + 1, 7), -1);
         }
     }
 

@@ -21,6 +21,7 @@ public final class EventEdgesTest {
         whatWaitsBehindAPress();
         whatWaitsBehindARelease();
         nothingStopsBehindAPoint();
+        whatIsNothingIsTakenToo();
         allBehindTheOneThatWaits();
         theMouseAtFirst();
         keysAreUpAtFirst();
@@ -221,6 +222,27 @@ public final class EventEdgesTest {
                 Checks.same(first + ", then " + kind, ui.begin(), 2);
             }
         }
+    }
+
+    /** "This frame took such an event that wasn't nothing": one that is nothing is taken as well. */
+    private static void whatIsNothingIsTakenToo() {
+        for (int kind = 0; kind < KINDS; kind++) {
+            PanelFrames ui = new PanelFrames();
+            ui.press(false);
+            add(ui, kind);
+            Checks.same("a release that is nothing, then " + kind, ui.begin(), waits(kind) ? 1 : 2);
+            PanelFrames pressed = new PanelFrames();
+            pressed.press(true);
+            pressed.begin();
+            pressed.end();
+            pressed.press(true);
+            add(pressed, kind);
+            Checks.same("a press that is nothing, then " + kind, pressed.begin(), waits(kind) ? 1 : 2);
+        }
+        PanelFrames ui = new PanelFrames();
+        ui.key(Checks.HOME, false);
+        ui.key(Checks.HOME, false);
+        Checks.same("keys that are so already", ui.begin(), 2);
     }
 
     private static void allBehindTheOneThatWaits() {

@@ -22,12 +22,14 @@ public final class ItemEdgesTest {
         cutByAChild();
         onlyOneIsHovered();
         nothingElseIsActive();
+        activeAlready();
         releasedWithoutAPress();
         sliderAtEachPlace();
         sliderOfTwo();
         sliderBetweenItsEnds();
         sliderCutsWhatIsBehindThePoint();
         sliderWithoutThePress();
+        sliderActiveWithoutThePress();
         sliderNumberIsBroughtBetween();
         sliderByKeysAtItsEnds();
         sliderByBothKeys();
@@ -355,6 +357,45 @@ public final class ItemEdgesTest {
         Checks.same("the active one itself is hovered", ui.look(1), ID);
     }
 
+    /** An item of a kind is active, though the mouse is released: then a child with its ID was told. */
+    private static PanelFrames withActiveForGood(int kind) {
+        PanelFrames ui = new PanelFrames();
+        ui.point(20, 30);
+        frame(ui, kind);
+        ui.press(true);
+        frame(ui, kind);
+        ui.press(false);
+        ui.begin();
+        ui.window(0, 10, 10, 100, 80);
+        ui.child(3, 40, 12);
+        ui.close();
+        ui.close();
+        ui.end();
+        Checks.same("it is active", ui.look(0), ID);
+        Checks.same("the mouse is released", ui.look(10), 0);
+        return ui;
+    }
+
+    /** "With PRESSED HERE and nothing active": not when it is active itself, so it doesn't get the focus. */
+    private static void activeAlready() {
+        PanelFrames ui = withActiveForGood(BUTTON);
+        ui.key(Checks.TAB, true);
+        ui.begin();
+        ui.window(0, 10, 10, 100, 80);
+        ui.button(3, 40);
+        ui.button(4, 40);
+        ui.close();
+        ui.end();
+        Checks.same("the focus went on", ui.look(2), Checks.idIn(0, 4));
+        ui.press(true);
+        ui.begin();
+        ui.window(0, 10, 10, 100, 80);
+        ui.button(3, 40);
+        Checks.same("it is hovered", ui.look(1), ID);
+        Checks.same("it is active", ui.look(0), ID);
+        Checks.same("the focus stays", ui.look(2), Checks.idIn(0, 4));
+    }
+
     private static void releasedWithoutAPress() {
         PanelFrames ui = new PanelFrames();
         frame(ui, BUTTON);
@@ -440,6 +481,17 @@ public final class ItemEdgesTest {
         ui.begin();
         ui.window(0, 0, 0, 300, 100);
         Checks.same("pressed below it", ui.slider(3, 101, 0, 100), 10);
+    }
+
+    private static void sliderActiveWithoutThePress() {
+        PanelFrames ui = withActiveForGood(SLIDER);
+        int number = ui.kept(ID);
+        ui.point(53, 30);
+        Checks.same("active, but the mouse isn't pressed", frame(ui, SLIDER), number);
+        Checks.same("it is hovered", ui.look(1), ID);
+        Checks.same("it is active", ui.look(0), ID);
+        ui.press(true);
+        Checks.same("now it is", frame(ui, SLIDER), 9);
     }
 
     private static PanelFrames withNumber(int number) {

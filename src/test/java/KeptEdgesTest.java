@@ -19,6 +19,7 @@ public final class KeptEdgesTest {
         aTreeBeyondForty();
         aSliderBeyondForty();
         idsThatNothingHas();
+        aNumberAlone();
         sameIdSameKept();
         Checks.finish("KeptEdgesTest");
     }
@@ -325,6 +326,18 @@ public final class KeptEdgesTest {
         Checks.same("a number below 0 does", ui.slider(600, 10, -9, -1), -1);
         Checks.same("the 40th", ui.look(12), 40);
         Checks.same("kept", ui.kept(Checks.idIn(0, 600)), -1);
+    }
+
+    /** "A number, 0 at first, and a text with a CARET (0 at first)": who has the one has the other. */
+    private static void aNumberAlone() {
+        PanelFrames ui = new PanelFrames();
+        sliders(ui, 2);
+        Checks.same("its number", ui.kept(Checks.idIn(2, 1)), 2);
+        Checks.same("its caret", ui.text(Checks.idIn(2, 1), 12), 0);
+        Checks.same("no letter", ui.text(Checks.idIn(2, 1), 0), -1);
+        PanelFrames text = withText("ab");
+        Checks.same("its caret", text.text(ID, 12), 2);
+        Checks.same("its number", text.kept(ID), 0);
     }
 
     private static void idsThatNothingHas() {
