@@ -373,6 +373,7 @@ public final class ItemEdgesTest {
         ui.end();
         Checks.same("it is active", ui.look(0), ID);
         Checks.same("the mouse is released", ui.look(10), 0);
+        Checks.same("and the child has the colour of it", ui.vertex(8, 2), 5);
         return ui;
     }
 
