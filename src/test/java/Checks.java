@@ -134,6 +134,28 @@ final class Checks {
         return id;
     }
 
+    /** Six labels, one told in the other in a window, whose ID is a rest beyond whole turns of an int. */
+    static int[] labelsFor(int window, long rest) {
+        int[] labels = new int[6];
+        long power = 1;
+        long least = 0;
+        for (int k = 0; k < labels.length; k++) {
+            least += power;
+            power *= 31;
+        }
+        long lowest = (1000 + window) * power + least;
+        long turn = 1L << 32;
+        long target = (lowest / turn + 1) * turn + rest;
+        long left = target - lowest;
+        for (int k = 0; k < labels.length; k++) {
+            power /= 31;
+            labels[k] = (int) Math.max(0, Math.min(999, left / power - (k < labels.length - 1 ? 1 : 0)));
+            left -= labels[k] * power;
+        }
+        same("labels for " + rest, left, 0);
+        return labels;
+    }
+
     static void latest(String what, PanelFrames ui, int left, int top, int right, int bottom) {
         same(what + ", left", ui.look(5), left);
         same(what + ", top", ui.look(6), top);

@@ -270,42 +270,20 @@ public final class NestingEdgesTest {
         }
     }
 
-    /** The labels, in window 0, for which the sum is a multiple of 2 to the 32nd and a rest more. */
-    private static int[] labelsFor(long rest) {
-        int[] labels = new int[6];
-        long power = 1;
-        long least = 0;
-        for (int k = 0; k < labels.length; k++) {
-            least += power;
-            power *= 31;
-        }
-        long lowest = 1000 * power + least;
-        long turn = 1L << 32;
-        long target = (lowest / turn + 1) * turn + rest;
-        long left = target - lowest;
-        for (int k = 0; k < labels.length; k++) {
-            power /= 31;
-            labels[k] = (int) Math.max(0, Math.min(999, left / power - (k < labels.length - 1 ? 1 : 0)));
-            left -= labels[k] * power;
-        }
-        Checks.same("labels for " + rest, left, 0);
-        return labels;
-    }
-
     /** "Without what is beyond an int": at its ends, and one step to each side. */
     private static void idsBeyondAnInt() {
         long[] rests = {-2, -1, 1, 2, (1L << 31) - 2, (1L << 31) - 1, 1L << 31, (1L << 31) + 1};
         for (long rest : rests) {
-            Checks.same("the ID of " + rest, focusIn(0, labelsFor(rest)), (int) rest);
+            Checks.same("the ID of " + rest, focusIn(0, Checks.labelsFor(0, rest)), (int) rest);
         }
     }
 
     /** "(1, if that is 0)": it is the same then as what has the ID 1. */
     private static void idThatWouldBeNothing() {
-        Checks.same("1 before 0", focusIn(0, labelsFor(-1)), -1);
-        Checks.same("0", focusIn(0, labelsFor(0)), 1);
-        Checks.same("1 behind 0", focusIn(0, labelsFor(1)), 1);
-        int[] labels = labelsFor(0);
+        Checks.same("1 before 0", focusIn(0, Checks.labelsFor(0, -1)), -1);
+        Checks.same("0", focusIn(0, Checks.labelsFor(0, 0)), 1);
+        Checks.same("1 behind 0", focusIn(0, Checks.labelsFor(0, 1)), 1);
+        int[] labels = Checks.labelsFor(0, 0);
         int last = labels[labels.length - 1];
         Checks.yes("the next label is one", last < 999);
         PanelFrames ui = Checks.inWindow();

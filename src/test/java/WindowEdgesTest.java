@@ -22,6 +22,7 @@ public final class WindowEdgesTest {
         movesByEachStep();
         movesPastTheScreen();
         doesNotMoveUnlessPressed();
+        doesNotMoveWhenPressedAnew();
         movesWithAPressThatIsNothing();
         activeEndsUntold();
         highOfNothing();
@@ -470,6 +471,41 @@ public final class WindowEdgesTest {
         ui.point(113, 205);
         frame(ui, 2, 100, 200, 60, 70);
         Checks.same("released", ui.place(2, 0), 100);
+    }
+
+    /** Window 1, and in it a child with the ID of window 0. */
+    private static void frameWithTheIdOfWindow0(PanelFrames ui) {
+        int[] labels = Checks.labelsFor(1, 1000);
+        int last = labels.length - 1;
+        ui.begin();
+        ui.window(1, 500, 500, 100, 100);
+        for (int k = 0; k < last; k++) {
+            ui.scope(labels[k]);
+        }
+        ui.child(labels[last], 10, 10);
+        for (int k = 0; k < labels.length; k++) {
+            ui.close();
+        }
+        ui.close();
+        ui.end();
+    }
+
+    /** "But not PRESSED HERE": the ID stays active over a release, since a child with it is told. */
+    private static void doesNotMoveWhenPressedAnew() {
+        PanelFrames ui = new PanelFrames();
+        frame(ui, 0, 100, 200, 60, 70);
+        ui.point(110, 205);
+        ui.press(true);
+        frame(ui, 0, 100, 200, 60, 70);
+        ui.press(false);
+        frameWithTheIdOfWindow0(ui);
+        Checks.same("active, though the mouse is released", ui.look(0), 1000);
+        ui.point(120, 215);
+        ui.press(true);
+        ui.begin();
+        Checks.same("active when it is pressed again", ui.look(0), 1000);
+        Checks.same("its left stays", ui.place(0, 0), 100);
+        Checks.same("its top stays", ui.place(0, 1), 200);
     }
 
     private static void movesWithAPressThatIsNothing() {
